@@ -984,6 +984,21 @@ public final class BumpMap {
             return other[i] == p && kind[i] != STEPS ? one[i] : NO_PLACE;
         }
 
+        /** PLACES to which a ROAD leads from a set of PLACES. */
+        int leadAll(int i, int set) {
+            if (!hasRoad(i)) {
+                return 0;
+            }
+            int reached = 0;
+            if ((set & 1 << one[i]) != 0) {
+                reached |= 1 << other[i];
+            }
+            if ((set & 1 << other[i]) != 0 && kind[i] != STEPS) {
+                reached |= 1 << one[i];
+            }
+            return reached;
+        }
+
         int roadsFrom(int p) {
             int set = 0;
             for (int i = 0; i < roads; i++) {
@@ -1010,7 +1025,7 @@ public final class BumpMap {
                 return false;
             }
             int k = kind[i];
-            return wanted == ROAD || wanted == k
+            return wanted == k
                 || wanted == PAVED && k == AVENUE
                 || wanted == STONY && k == STEPS;
         }
@@ -1198,10 +1213,13 @@ public final class BumpMap {
 
         /** PLACES to which a number leads from a set of PLACES. */
         int step(int set, int number) {
+            if (number < 0 || number >= NUMBERS) {
+                return 0;
+            }
             int reached = 0;
             for (int p = 0; p < PLACES_MOST; p++) {
                 if ((set & 1 << p) != 0) {
-                    reached |= leadsBy(p, number);
+                    reached |= leads[p * NUMBERS + number];
                 }
             }
             return reached;
@@ -1563,23 +1581,12 @@ public final class BumpMap {
             boolean isNew = false;
             for (int i = 0; i < land.roads; i++) {
                 int driven = (set | 1 << i) & SETS - 1;
-                int fresh = leadsOf(land, i, now[set]) & ~seen[driven];
+                int fresh = land.leadAll(i, now[set]) & ~seen[driven];
                 seen[driven] |= fresh;
                 then[driven] |= fresh;
                 isNew |= fresh != 0;
             }
             return isNew;
-        }
-
-        private static int leadsOf(Land land, int i, int set) {
-            int reached = 0;
-            for (int p = 0; p < land.places; p++) {
-                int to = land.lead(i, p);
-                if ((set & 1 << p) != 0 && to != NO_PLACE) {
-                    reached |= 1 << to;
-                }
-            }
-            return reached;
         }
     }
 }

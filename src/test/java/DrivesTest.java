@@ -170,6 +170,8 @@ public final class DrivesTest {
         Check.fill(x, 0, 1, -1);
         c.finds("no such road, though it never gets there", x, x.feels(0, 0, 1), UNLIKE);
         c.rowIs("refused: the row stays", x, 1);
+        Check.fill(x, 0, 3);
+        c.finds("the first number that is none", x, x.feels(0, 0, 1), UNLIKE);
         c.finds("feels NOTHING", x, x.feels(5, 0, 1), NOTHING);
         c.due("feels BAD", x.feels(6, 0, 1), BAD);
         c.due("feels BAD", x.feels(0, 3, 1), BAD);

@@ -51,7 +51,7 @@ public final class FeltTest {
         c.finds(name + " SIZE ahead of UNLIKE", x, ask.of(x, 0, 0), SIZE);
         Check.fill(x, 0, 2, 10);
         c.finds(name + " UNLIKE", x, ask.of(x, 0, 0), UNLIKE);
-        Check.fill(x, 0, 2, -1);
+        Check.fill(x, 0, -1, 2);
         c.finds(name + " UNLIKE", x, ask.of(x, 0, 0), UNLIKE);
         c.due(name + " refused: asked", x.asked(), 0);
         c.due(name + ": findings", x.findings(UNLIKE), 2);
@@ -103,6 +103,8 @@ public final class FeltTest {
         Check.fill(y, 0, 5, 5);
         Check.fill(y, 1, 8, 8, 8);
         c.due("none", y.first(0, 0, 1), NONE);
+        Check.fill(y, 2, 2, 2);
+        c.due("back at 0", y.first(2, 0, 2), 0);
         c.rowIs("the row stays", y, 1, 8, 8, 8);
         y.row(0, 0);
         c.due("no roads", y.first(0, 2, 1), 2);
@@ -156,6 +158,9 @@ public final class FeltTest {
         c.told("from 0, 1: the first of 2, 5 or 7", y, y.next(0), 7, 2);
         Check.fill(y, 0, 3, 3);
         c.told("of 2, 3, 5", y, y.next(0), 2, 1);
+        BumpMap z = Check.landed("n7 r010 r120 r230 r340 r450 r560");
+        z.row(0, 15);
+        c.told("no number but 0, all seven", z, z.next(0), 0, 7);
     }
 
     private static void apart() {
@@ -210,6 +215,9 @@ public final class FeltTest {
         BumpMap y = Check.landed("n4 r031 r122");
         c.told("the first of alike ones", y, y.look(15), 2, 9);
         c.told("the greatest", y, y.look(7), 2, 6);
+        BumpMap z = Check.landed("n3 r010 r112");
+        c.told("0 is a number, too: {0}, {0 2}, {}", z, z.look(7), 3, 1);
+        c.told("nothing is no number", z, z.look(5), 2, 1);
     }
 
     private static void marks() {
@@ -229,5 +237,8 @@ public final class FeltTest {
         BumpMap y = Check.landed("n1" + "r000".repeat(10));
         y.row(0, 6);
         c.told("most ways", y, y.marks(0), 151200, 0);
+        BumpMap z = Check.landed("n1 r001");
+        z.row(0, 1);
+        c.told("what is no road has no mark", z, z.marks(0), 0, 0);
     }
 }

@@ -39,7 +39,6 @@ public final class ModelTest {
     }
 
     private void run(List<Method> face) throws Exception {
-        // A long drive of lots() or a land of few numbers makes more drives feel alike.
         int calls = 0;
         while (calls < CALLS - 110 && right) {
             calls += writeLand();
@@ -157,7 +156,10 @@ public final class ModelTest {
         }
     }
 
-    /** One call on both; then what stays to be told must be the same, too. */
+    /**
+     * One call on both; then what stays to be told must be the same, too. With that an object has
+     * more than the 512 calls that the document promises: this program has no such end.
+     */
     private void same(String name, int... a) throws Exception {
         if (!right) return;
         long want = model.call(name, a);

@@ -98,6 +98,7 @@ public final class RowsTest {
         c.finds("torn", x, x.at(2, 0), NOTHING);
         c.due("none is there", x.count(6), 0);
         c.finds("tear torn", x, x.tear(2), NOTHING);
+        c.due("a torn row leaves nothing in the digest", x.digest(), new BumpMap().digest());
     }
 
     private static void copy() {
@@ -232,7 +233,9 @@ public final class RowsTest {
         x.wheels(2);
         x.begin(1);
         x.go(1);
+        x.keep(0);
         x.keep(1);
+        x.keep(2);
         long before = x.digest();
         c.due("land with a fault", x.land(1), STATE);
         c.due("fault without a land", x.fault(2), NONE);
@@ -324,6 +327,8 @@ public final class RowsTest {
         c.told("from 1", x, x.from(1), 15, 7);
         c.told("steps lead one way", x, x.from(2), 0, 0);
         c.told("from a lonely one", x, x.from(3), 0, 0);
+        BumpMap y = Check.landed("n3 r021 r011");
+        c.told("each leads elsewhere", y, y.from(0), 3, 6);
         x.from(1);
         c.due("from BAD", x.from(4), BAD);
         c.due("from BAD", x.from(-1), BAD);
